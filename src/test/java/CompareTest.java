@@ -3,6 +3,7 @@ import java.lang.reflect.Method;
 import java.util.ArrayList;
 import java.util.Comparator;
 import java.util.List;
+import java.util.Map;
 import java.util.Random;
 
 /** Random runs of calls, always the same ones, on BothEnds and on Naive: each answer must be the same. */
@@ -149,16 +150,18 @@ public final class CompareTest {
     }
 
     private String somePattern(String text, int most) {
-        int length = 1 + random.nextInt(most);
+        int length = 1 + random.nextInt(random.nextInt(3) == 0 ? most : 9);
         StringBuilder s = new StringBuilder();
-        if (random.nextInt(3) > 0) {
-            String letters = text.replace("|", "");
-            int from = random.nextInt(letters.length());
+        if (random.nextInt(4) > 0) {
+            String[] documents = text.split("\\|");
+            String letters = documents[random.nextInt(documents.length)];
+            length = Math.min(length, 2 + letters.length());
+            int from = random.nextInt(Math.max(1, letters.length() - length + 1));
             s.append(letters, from, Math.min(letters.length(), from + length));
         }
         while (s.length() < length) s.append((char) ('a' + random.nextInt(random.nextBoolean() ? 2 : 8)));
         for (int i = random.nextInt(4); i > 0; i--) s.setCharAt(random.nextInt(length), (char) ('a' + random.nextInt(4)));
-        if (random.nextInt(15) == 0) s.setCharAt(random.nextInt(length), '|');
+        if (random.nextInt(20) == 0) s.setCharAt(random.nextInt(length), '|');
         return s.toString();
     }
 
@@ -169,27 +172,34 @@ public final class CompareTest {
         return s.toString();
     }
 
-    // Mostly within what the call takes, now and then far off.
-    private int someNumber(String name, int index) {
-        int n = (Integer) answer(naive, "told", new Object[] {0});
-        if (random.nextInt(60) == 0) return new int[] {Integer.MIN_VALUE, Integer.MAX_VALUE, -1, 240, 241, 242}[random.nextInt(6)];
-        if (name.equals("grow") || name.equals("count") && index == 2) {
-            if (index != 1) return 96 + random.nextInt(random.nextBoolean() ? 4 : 10);
+    // The greatest "what" of each call that ends with one.
+    private static final Map<String, Integer> WHATS = Map.ofEntries(
+            Map.entry("told", 13), Map.entry("row", 6), Map.entry("grows", 1), Map.entry("hit", 2),
+            Map.entry("hits", 3), Map.entry("shares", 2), Map.entry("digit", 2), Map.entry("found", 3),
+            Map.entry("result", 4), Map.entry("ran", 1), Map.entry("match", 3), Map.entry("maximal", 2),
+            Map.entry("repeat", 2), Map.entry("around", 1), Map.entry("common", 1), Map.entry("document", 2),
+            Map.entry("status", 2), Map.entry("grow", 1));
+
+    // Mostly within what the call takes, now and then a little or far off.
+    private int someNumber(String name, int index, int last) {
+        if (random.nextInt(80) == 0) return new int[] {Integer.MIN_VALUE, Integer.MAX_VALUE, -1, 240, 241, 242}[random.nextInt(6)];
+        if (index == last && WHATS.containsKey(name)) return upTo(WHATS.get(name) + (random.nextInt(20) == 0 ? 1 : 0));
+        if (name.equals("grow") || name.equals("count") && index == 2) return 96 + random.nextInt(random.nextBoolean() ? 4 : 10);
+        if (name.equals("maximals") || name.equals("maximal") && index > 0) {
+            return index == last - (name.equals("maximal") ? 1 : 0) ? 1 + upTo(4) : upTo(4);
         }
-        if (name.equals("maximal") && index == 0) return upTo(6);
-        if (name.equals("status") || name.equals("digit") || name.equals("ran") || index > 0) return upTo(random.nextInt(3) == 0 ? 8 : 3);
-        if (name.equals("told")) return upTo(14);
+        if (List.of("row", "rowOf", "count", "print").contains(name) && index == 0) return upTo(random.nextInt(9) == 0 ? 2 : 1);
         if (name.equals("step")) return upTo(17);
-        if (name.equals("row") || name.equals("rowOf") || name.equals("count") || name.equals("print")) return upTo(random.nextInt(9) == 0 ? 2 : 1);
-        if (name.equals("strings") || name.equals("maximals")) return upTo(6);
-        return upTo(random.nextBoolean() ? n + 2 : 6);
+        if (name.equals("strings")) return upTo(6);
+        if (List.of("digit", "ran", "document", "letter", "found", "match", "maximal").contains(name)) return upTo(random.nextBoolean() ? 2 : 6);
+        return upTo(random.nextBoolean() ? (Integer) answer(naive, "told", new Object[] {0}) + 2 : 6);
     }
 
     private void someCall() {
         Method method = METHODS.get(random.nextInt(METHODS.size()));
         String name = method.getName();
         Object[] arguments = new Object[method.getParameterCount()];
-        for (int i = 0; i < arguments.length; i++) arguments[i] = someNumber(name, i);
+        for (int i = 0; i < arguments.length; i++) arguments[i] = someNumber(name, i, arguments.length - 1);
         if (arguments.length > 1 && List.of("row", "rowOf", "count").contains(name)) {
             arguments[1] = random.nextInt(50) == 0 ? -1 : upTo((Integer) answer(naive, "told", new Object[] {0}) + 2);
         }
@@ -198,11 +208,14 @@ public final class CompareTest {
     }
 
     private void growMany() {
-        for (int i = random.nextInt(random.nextInt(8) == 0 ? 45 : 8); i > 0; i--) {
+        boolean far = random.nextInt(5) == 0;
+        for (int i = far ? 43 : random.nextInt(8); i > 0; i--) {
             int what = random.nextInt(2);
             int bits = (Integer) call("grows", what);
-            int letter = bits != 0 && random.nextInt(6) > 0 ? Integer.numberOfTrailingZeros(Integer.highestOneBit(bits)) : random.nextInt(8);
+            int letter = random.nextInt(8);
+            for (int k = 0; k < 8 && bits != 0 && (bits >> letter & 1) == 0 && (far || i % 4 > 0); k++) letter = (letter + 1) % 8;
             call("grow", 97 + letter, what);
+            if (random.nextInt(12) == 0) call("shrink");
         }
     }
 
@@ -214,7 +227,11 @@ public final class CompareTest {
     }
 
     private void someStory() {
-        switch (random.nextInt(12)) {
+        switch (log.isEmpty() ? 0 : random.nextInt(13)) {
+            case 8: {
+                for (int i = random.nextInt(14); i > 0; i--) feedAll(somePattern(nowText(), 20));
+                break;
+            }
             case 0: {
                 emptyTape();
                 String s = someText();
