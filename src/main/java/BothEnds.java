@@ -997,7 +997,6 @@ public final class BothEnds {
             kind = 0;
             place = NONE;
             into.searches = 0;
-            into.parts = 0;
             skipBlanks();
             for (int turn = 0; turn <= MOST_SEARCHES && at < end && kind == 0; turn++) {
                 readSearch(into);
@@ -1480,11 +1479,11 @@ public final class BothEnds {
             }
         }
 
+        // The shorter of two begins the longer, and so comes ahead of it; their lows are one and the same.
         private void turnRound(int begin) {
             int i = begin;
             for (int j = maximals - 1; j > i; j--) {
                 exchange(lengths, i, j);
-                exchange(lows, i, j);
                 exchange(sizes, i, j);
                 i++;
             }

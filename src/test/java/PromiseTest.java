@@ -583,6 +583,44 @@ public final class PromiseTest {
         due("counts stay behind text", x.status(2), 3);
     }
 
+    private static void sharesAskedInAnyOrder() {
+        BothEnds x = new BothEnds();
+        scheme(x, "0 0 1;0 0 1;");
+        due("needless first", x.needless(), 3);
+        scheme(x, "0 0 1;");
+        due("sound first", x.sound() ? 1 : 0, 1);
+        scheme(x, "0 0 1;0 0 1;");
+        due("sound no more", x.sound() ? 1 : 0, 0);
+        due("new object is sound", new BothEnds().sound() ? 1 : 0, 1);
+    }
+
+    private static void fullText() {
+        BothEnds x = on("a".repeat(240));
+        due("search in 240", search(x, "a"), 240);
+        due("the last place", x.found(239, 0), 239);
+        due("its mismatches", x.found(239, 1), 0);
+        due("its times", x.found(239, 2), 1);
+        due("its bits", x.found(239, 3), 0);
+        due("with none", x.result(2), 240);
+        due("around", x.around(0, 0), 240);
+        due("around begins", x.around(239, 1), 0);
+        due("unique", x.unique(0), 240);
+        due("unique", x.unique(1), -1);
+        due("repeat", x.repeat(0), 239);
+        due("common", x.common(0), 240);
+        due("strings", x.strings(240), 1);
+        due("count", x.count(1, 241, 'a'), 240);
+        due("last row", x.row(1, 240, 0), 0);
+        due("hits", x.hit(240, 0), 240);
+        feed(x, "a".repeat(240));
+        due("matches", x.matches(240, 240), 1);
+        due("match", x.match(0, 1), 240);
+        feed(x, "b".repeat(240));
+        due("no matches", x.matches(240, 1), 0);
+        due("maximal", x.maximal(238, 1, 2, 0), 239);
+        due("documents", on("a|".repeat(119) + "ab").document(119, 0), 238);
+    }
+
     public static void main(String[] args) {
         promise1NewObject();
         promise2Feed();
@@ -596,6 +634,7 @@ public final class PromiseTest {
         promises17And18Hits();
         promise19Often();
         promises20To23Shares();
+        sharesAskedInAnyOrder();
         promises24To27Search();
         promises28And29Matches();
         promises30And31Maximals();
@@ -605,6 +644,7 @@ public final class PromiseTest {
         promise37Document();
         promise38Print();
         promise39Status();
+        fullText();
         System.out.println("PromiseTest: " + cases + " cases, " + wrong + " wrong");
         if (wrong > 0) System.exit(1);
     }
