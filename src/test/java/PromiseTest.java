@@ -1,71 +1,5 @@
-import java.util.NoSuchElementException;
-
 /** Each promise of the document by cases written out: ordinary ones, the edges that it names, wrong inputs. */
-public final class PromiseTest {
-    private static final Class<?> MISSING = NoSuchElementException.class;
-    private static final Class<?> ARGUMENT = IllegalArgumentException.class;
-    private static final Class<?> STATE = IllegalStateException.class;
-    private static int wrong;
-    private static int cases;
-
-    private static void due(String call, long got, long want) {
-        cases++;
-        if (got != want) {
-            wrong++;
-            System.out.println(call + " answered " + got + ", due is " + want);
-        }
-    }
-
-    private static void refuses(String call, Class<?> reason, Runnable run) {
-        cases++;
-        Class<?> thrown = null;
-        try {
-            run.run();
-        } catch (RuntimeException e) {
-            thrown = e.getClass();
-        }
-        if (thrown != reason) {
-            wrong++;
-            System.out.println(call + " threw " + thrown + ", due is " + reason);
-        }
-    }
-
-    private static void feed(BothEnds x, String bytes) {
-        for (int i = 0; i < bytes.length(); i += 20) {
-            int[] numbers = new int[5];
-            for (int k = 0; k < 20; k++) {
-                int sign = i + k < bytes.length() ? bytes.charAt(i + k) : 0;
-                numbers[k / 4] = numbers[k / 4] << 8 | sign;
-            }
-            x.feed(numbers[0], numbers[1], numbers[2], numbers[3], numbers[4]);
-        }
-    }
-
-    private static BothEnds on(String text) {
-        BothEnds x = new BothEnds();
-        feed(x, text);
-        due("text " + text, x.text(text.length()), 0);
-        return x;
-    }
-
-    private static int scheme(BothEnds x, String scheme) {
-        feed(x, scheme);
-        return x.scheme(scheme.length());
-    }
-
-    private static int search(BothEnds x, String pattern) {
-        feed(x, pattern);
-        return x.search(pattern.length());
-    }
-
-    private static void grow(BothEnds x, String letters) {
-        for (int i = 0; i < letters.length(); i++) x.grow(letters.charAt(i), 1);
-    }
-
-    private static void empty(BothEnds x) {
-        if (x.told(12) > 0) x.scheme(1);
-    }
-
+public final class PromiseTest extends Check {
     private static void promise1NewObject() {
         BothEnds x = new BothEnds();
         int[] told = {1, 1, 1, 4, 0, 0, 0, 2, 1, 1, 1, 0, 0, -1};
@@ -645,7 +579,6 @@ public final class PromiseTest {
         promise38Print();
         promise39Status();
         fullText();
-        System.out.println("PromiseTest: " + cases + " cases, " + wrong + " wrong");
-        if (wrong > 0) System.exit(1);
+        end("PromiseTest");
     }
 }
