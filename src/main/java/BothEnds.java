@@ -197,9 +197,9 @@ public final class BothEnds {
     }
 
     public int hit(int k, int what) throws NoSuchElementException, IllegalArgumentException {
-        needElement(k >= 0 && k < cursor.size());
-        needArgument(isWhat(what, 2));
         int place = placeOfHit(k);
+        needElement(place != NONE);
+        needArgument(isWhat(what, 2));
         int document = words.documentOf[place];
         switch (what) {
             case 0: return place;
@@ -495,8 +495,11 @@ public final class BothEnds {
     }
 
     private int placeOfHit(int k) {
+        if (k < 0 || k >= cursor.size()) {
+            return NONE;
+        }
         int place = nextHit(0);
-        for (int i = 0; i < k; i++) {
+        for (int i = 0; i < k && place != NONE; i++) {
             place = nextHit(place + 1);
         }
         return place;
@@ -765,16 +768,14 @@ public final class BothEnds {
     private static final class Spans {
         private final Rows forth;
         private final Rows back;
-        private final int[] lowForth;
-        private final int[] lowBack;
-        private final int[] sizes;
+        // The CURSOR may be longer than a PATTERN that is searched, so its room is enough for either.
+        private final int[] lowForth = new int[MOST_CURSOR + 1];
+        private final int[] lowBack = new int[MOST_CURSOR + 1];
+        private final int[] sizes = new int[MOST_CURSOR + 1];
 
-        private Spans(Rows forth, Rows back, int letters) {
+        private Spans(Rows forth, Rows back) {
             this.forth = forth;
             this.back = back;
-            lowForth = new int[letters + 1];
-            lowBack = new int[letters + 1];
-            sizes = new int[letters + 1];
         }
 
         private void start() {
@@ -812,7 +813,7 @@ public final class BothEnds {
         private int length;
 
         private Cursor(Rows forth, Rows back) {
-            spans = new Spans(forth, back, MOST_CURSOR);
+            spans = new Spans(forth, back);
         }
 
         private void empty() {
@@ -1168,7 +1169,7 @@ public final class BothEnds {
         private Hunt(Text text, Rows forth, Rows back) {
             this.text = text;
             this.forth = forth;
-            spans = new Spans(forth, back, MOST_PATTERN);
+            spans = new Spans(forth, back);
         }
 
         private void forget() {

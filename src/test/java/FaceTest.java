@@ -92,7 +92,7 @@ public final class FaceTest {
             if (!line.contains("new ")) continue;
             boolean field = line.matches(".*private final .*= new .*");
             boolean thrown = line.matches("\\s*throw new \\w+Exception\\(\"\"\\);");
-            boolean built = line.matches("            (lowForth|lowBack|sizes|spans) = new .*") || line.matches("        \\w+ = new \\w+\\(.*\\);");
+            boolean built = line.matches("            spans = new .*") || line.matches("        \\w+ = new \\w+\\(.*\\);");
             need(field || thrown || built, "made in a call: " + line.trim());
         }
     }
