@@ -1,7 +1,7 @@
 import java.util.ArrayList;
 import java.util.List;
 
-/** All small texts and all small schemes, none left out, on BothEnds and on Naive: each answer must be the same. */
+/** All short texts and schemes of a few signs, on BothEnds and on Naive: each answer must be the same. */
 public final class SmallTest extends Check {
     private static final int LONGEST_TEXT = 7;
     private static final int LONGEST_SCHEME = 7;
